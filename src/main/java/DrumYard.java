@@ -94,8 +94,10 @@ public final class DrumYard {
         if (!columns.hasPlace(place) || (drum != NONE && drum != NEW && !drums.has(drum))) {
             return false;
         }
+        if (drum != words.toldOf(place)) {
+            paperIsStale = true;
+        }
         words.tell(place, drum);
-        paperIsStale = true;
         return true;
     }
 
@@ -285,7 +287,7 @@ public final class DrumYard {
         return lying == NEW ? drums.meanHeight() : drums.fact(lying, Drums.HEIGHT);
     }
 
-    /** The WAYS are looked for only when asked for, as most words change them and few calls ask. */
+    /** Only when asked for, so that all words between two questions cost one search. */
     private void drawPaper() {
         if (!paperIsStale) {
             return;
@@ -295,7 +297,7 @@ public final class DrumYard {
             paper.allowOver(drum, drums.lyingOn(drum, tol));
         }
         for (int place = 0; place < columns.placeNumber(); place++) {
-            paper.allowAt(place, itemsAllowedAt(place), columns.isFoot(place));
+            paper.allowAt(place, itemsAllowedAt(place), columns.isHead(place));
         }
         paper.findBest();
         paperIsStale = false;
@@ -636,7 +638,7 @@ public final class DrumYard {
         private static final int MOST_REACHED = 6144;
 
         private final int[] allowed;
-        private final boolean[] isFoot;
+        private final boolean[] isHead;
         private final int[] over;
         private final int[] bestHeld;
         private final int[] firstWay;
@@ -652,7 +654,7 @@ public final class DrumYard {
 
         Paper() {
             allowed = new int[MOST_PLACES];
-            isFoot = new boolean[MOST_PLACES];
+            isHead = new boolean[MOST_PLACES];
             over = new int[ITEMS];
             bestHeld = new int[MOST_PLACES];
             firstWay = new int[MOST_PLACES];
@@ -703,10 +705,10 @@ public final class DrumYard {
             }
         }
 
-        void allowAt(int place, int itemBits, boolean foot) {
+        void allowAt(int place, int itemBits, boolean head) {
             if (isPlace(place)) {
                 allowed[place] = itemBits;
-                isFoot[place] = foot;
+                isHead[place] = head;
             }
         }
 
@@ -816,14 +818,13 @@ public final class DrumYard {
             return allowed[place] & over[state % ITEMS] & ~(state / ITEMS);
         }
 
-        /** A next COLUMN's foot, or the end, has nothing below: beginnings alike but for it merge. */
+        /** Over a COLUMN's head nothing asks what lies below: beginnings alike but for it merge. */
         private int after(int place, int state, int item) {
             int used = state / ITEMS;
             if (item != NEW) {
                 used |= 1 << item;
             }
-            boolean endsColumn = place + 1 >= places || isFoot[place + 1];
-            return used * ITEMS + (endsColumn ? NEW : item);
+            return used * ITEMS + (isHead[place] ? NEW : item);
         }
 
         private boolean isPlace(int place) {
