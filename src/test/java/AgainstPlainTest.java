@@ -4,8 +4,9 @@ import java.util.Random;
 /** Long runs of calls of every kind, right and wrong, against the slow and plain yard. */
 public final class AgainstPlainTest {
     private static final Due DUE = new Due("AgainstPlainTest");
-    private static final int RUNS = 600;
-    private static final int CALLS = 110;
+    private static final int RUNS = 2000;
+    /** Each is at most two calls that change and fourteen that ask: 512 in all, and no more are promised. */
+    private static final int STEPS = 32;
     private static final int[] HOLES = {0, 0, 3, 5, 6, 257, 32769, 65535};
 
     private final Random random;
@@ -31,8 +32,8 @@ public final class AgainstPlainTest {
     }
 
     private void run(int seed) {
-        for (int i = 0; i < CALLS; i++) {
-            String when = "seed " + seed + ", call " + i + ": ";
+        for (int i = 0; i < STEPS; i++) {
+            String when = "seed " + seed + ", step " + i + ": ";
             change(when);
             ask(when);
         }
@@ -53,7 +54,7 @@ public final class AgainstPlainTest {
             plain.column(size, size == 3 ? 0 : 500, 520);
         }
         askAll("full " + seed + ": ");
-        for (int i = 0; i < 6; i++) {
+        for (int i = 0; i < 5; i++) {
             int place = random.nextInt(8);
             yard.not(place, plain.first(place), true);
             plain.not(place, plain.first(place), true);

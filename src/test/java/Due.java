@@ -1,18 +1,28 @@
+import java.util.List;
+
 /** Counts the calls whose answer is not the one that is due. */
 final class Due {
     private final String test;
+    private String sentence = "";
     private int asked = 0;
+    private int askedBeforeSentence = 0;
     private int wrong = 0;
 
     Due(String test) {
         this.test = test;
     }
 
+    /** The document's words to which the answers from here on are held. */
+    void of(String words) {
+        endSentence();
+        sentence = words;
+        askedBeforeSentence = asked;
+    }
+
     void is(String call, long got, long want) {
         asked++;
         if (got != want) {
-            wrong++;
-            System.out.println(test + ": " + call + " answered " + got + ", due is " + want);
+            tell(call + " answered " + got + ", due is " + want);
         }
     }
 
@@ -24,10 +34,36 @@ final class Due {
         is(call, got ? 1 : 0, 0);
     }
 
+    void alike(String call, List<String> got, List<String> want) {
+        asked++;
+        for (int i = 0; i < got.size() && i < want.size(); i++) {
+            if (!got.get(i).equals(want.get(i))) {
+                tell(call + ": then " + got.get(i) + ", due is " + want.get(i));
+                return;
+            }
+        }
+        if (got.size() != want.size()) {
+            tell(call + ": then " + got.size() + " answers, due are " + want.size());
+        }
+    }
+
     void end() {
+        endSentence();
         System.out.println(test + ": " + asked + " answers, " + wrong + " not as due");
         if (wrong != 0) {
             System.exit(1);
+        }
+    }
+
+    private void tell(String what) {
+        wrong++;
+        System.out.println(test + (sentence.isEmpty() ? "" : ": '" + sentence + "'") + ": " + what);
+    }
+
+    /** A sentence that is named and never asked about would look tested. */
+    private void endSentence() {
+        if (!sentence.isEmpty() && asked == askedBeforeSentence) {
+            tell("nothing was asked");
         }
     }
 }
