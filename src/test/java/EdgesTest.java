@@ -21,6 +21,8 @@ public final class EdgesTest {
         sureAndOpen();
         bearsAllAbove();
         crackedBeyondStrength();
+        stoneByStone();
+        lowestNotFull();
         neighbours();
         fewestIfNone();
         tall();
@@ -178,12 +180,11 @@ public final class EdgesTest {
 
     private static void leastNewStone() {
         DUE.of("BEST are the WAYS with the least new stone");
+        DrumYard yard = Yards.ofColumns(5, 3);
         for (int drums = 0; drums <= 10; drums++) {
-            DrumYard yard = Yards.ofAlike(drums);
-            yard.column(5, 0, 0);
-            yard.column(3, 0, 0);
             DUE.is(drums + " drums, 8 places: least()", yard.least(), Math.max(0, 8 - drums));
             DUE.is(drums + " drums, 8 places: ways()", yard.ways(), waysToPlace(drums, 8));
+            Yards.plain(yard, 500, 500, 10, 1, 1);
         }
     }
 
@@ -285,6 +286,31 @@ public final class EdgesTest {
         yard.column(places, 0, 0);
         yard.hand(0, 0);
         return yard.cracked();
+    }
+
+    private static void stoneByStone() {
+        DUE.of("stone by stone, new stone as well");
+        DrumYard yard = Yards.ofAlike(2);
+        yard.column(2, 0, 0);
+        yard.column(2, 0, 0);
+        setIn("two drums, two new stones", yard, 0, 2, 1, 3);
+        DUE.is("two new stones: least()", yard.least(), 2);
+        yard.hand(0, NEW);
+        yard.hand(2, NEW);
+        setIn("new stone at both feet", yard, 0, 2, 1, 3);
+        yard.hand(1, 0);
+        yard.hand(3, 0);
+        DUE.is("no way, so no stone: setting(0)", yard.setting(0), NONE);
+    }
+
+    private static void lowestNotFull() {
+        DUE.of("next is always the lowest COLUMN that is not full");
+        setIn("one stone each", Yards.ofColumns(1, 1, 1, 1), 0, 1, 2, 3);
+        DrumYard yard = Yards.ofColumns(1, 5, 2);
+        yard.set(5, 500, 5);
+        setIn("each full before the next", yard, 0, 1, 2, 3, 4, 5, 6, 7);
+        yard.set(5, 500, 4);
+        setIn("all but the last stone before the next", yard, 0, 1, 2, 3, 4, 6, 5, 7);
     }
 
     private static void neighbours() {

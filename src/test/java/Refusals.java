@@ -2,7 +2,10 @@ import java.util.function.Predicate;
 import java.util.function.Supplier;
 import java.util.function.ToLongFunction;
 
-/** Refused calls: each must answer as told and leave its yard as one that was never called so. */
+/**
+ * 'What is refused answers as told and changes nothing.': the yard called so must then answer all
+ * that can be asked as one made alike that was never called so.
+ */
 final class Refusals {
     private final Due due;
 
@@ -13,7 +16,7 @@ final class Refusals {
     void is(String call, Supplier<DrumYard> made, ToLongFunction<DrumYard> refused, long want) {
         DrumYard called = made.get();
         due.is(call, refused.applyAsLong(called), want);
-        due.alike(call + " changes nothing", Sight.of(called), Sight.of(made.get()));
+        due.alike(call + " 'changes nothing'", Sight.of(called), Sight.of(made.get()));
     }
 
     void no(String call, Supplier<DrumYard> made, Predicate<DrumYard> refused) {
