@@ -34,6 +34,13 @@ final class Due {
         is(call, got ? 1 : 0, 0);
     }
 
+    void same(String call, String got, String want) {
+        asked++;
+        if (!got.equals(want)) {
+            tell(call + " answered " + got + ", due is " + want);
+        }
+    }
+
     void alike(String call, List<String> got, List<String> want) {
         asked++;
         for (int i = 0; i < got.size() && i < want.size(); i++) {
