@@ -13,6 +13,8 @@ public final class MeetingTest {
         leastTurn();
         footApart();
         headLikewise();
+        pairs();
+        pairsOfFullYard();
         DUE.end();
     }
 
@@ -176,5 +178,54 @@ public final class MeetingTest {
         yard.drum(0, 0, 0, 1, 1);
         yard.column(1, footAndHead[0], footAndHead[1]);
         return yard.fits(0, 0);
+    }
+
+    /** LIES ON tells the one from the other, so two drums are two pairs if each lies on the other. */
+    private static void pairs() {
+        DUE.of("3 pairs of which the one LIES ON the other");
+        DUE.is("1 on 0 alone", pairsOf(new int[] {700, 600}, new int[] {600, 500}), 1);
+        DUE.is("0 on 1 alone", pairsOf(new int[] {600, 500}, new int[] {700, 600}), 1);
+        DUE.is("1 on 0 and 0 on 1", pairsOf(new int[] {700, 600}, new int[] {600, 700}), 2);
+        DUE.is("neither", pairsOf(new int[] {700, 600}, new int[] {500, 400}), 0);
+        DUE.is("alone, as wide above as below", pairsOf(new int[] {600, 600}), 0);
+        DUE.is("one below two", pairsOf(new int[] {700, 600}, new int[] {600, 500}, new int[] {600, 400}), 2);
+        DUE.is("one above two", pairsOf(new int[] {600, 500}, new int[] {700, 600}, new int[] {800, 600}), 2);
+        DUE.is("in a ring", pairsOf(new int[] {600, 500}, new int[] {500, 400}, new int[] {400, 600}), 3);
+    }
+
+    private static int pairsOf(int[]... widths) {
+        DrumYard yard = new DrumYard();
+        for (int[] row : widths) {
+            Yards.plain(yard, row[0], row[1], 10, 1, 1);
+        }
+        return yard.count(3);
+    }
+
+    private static void pairsOfFullYard() {
+        DUE.of("3 pairs of which the one LIES ON the other");
+        for (int tol = 0; tol <= 50; tol++) {
+            DrumYard yard = ofTenUnlike();
+            yard.set(tol, 500, 1);
+            DUE.is("tol " + tol + ": as many as turn() tells of", yard.count(3), turnsOf(yard));
+        }
+    }
+
+    private static DrumYard ofTenUnlike() {
+        DrumYard yard = new DrumYard();
+        for (int drum = 0; drum < 10; drum++) {
+            yard.measure(500 + drum, 505 - drum, drum % 3, 10);
+            yard.drum(20 * (drum % 3), drum % 4, 2 * (drum % 4), 1, 1);
+        }
+        return yard;
+    }
+
+    private static int turnsOf(DrumYard yard) {
+        int turns = 0;
+        for (int above = 0; above < 10; above++) {
+            for (int below = 0; below < 10; below++) {
+                turns += yard.turn(above, below) == NONE ? 0 : 1;
+            }
+        }
+        return turns;
     }
 }
